@@ -22,7 +22,6 @@ public final class ArrestOrder {
     private static final int NOT_TAKEN_IS_WORTH = 9;
     private static final int NO_CHOICE_IS_WORTH = -9;
     private static final int CHOICES = MOST_PEOPLE + 1;
-    private static final int LEAST_ROW_OF_TWO_PAIRS = 100;
 
     private static final long SEED_FACTOR = 6364136223846793005L;
     private static final long SEED_STEP = 1442695040888963407L;
@@ -109,7 +108,7 @@ public final class ArrestOrder {
             case 0: return now.deedOf(person);
             case 1: return now.kindOf(person);
             case 2: return now.gradeOf(person);
-            case 3: return now.fedByThe(person);
+            case 3: return now.whomFeeds(person);
             default: return BAD;
         }
     }
@@ -210,14 +209,16 @@ public final class ArrestOrder {
         if (what < 0 || what > 1) {
             return BAD;
         }
-        int row = fewestPairs(person);
-        if (row == NONE || what == 1) {
-            return row;
-        }
-        if (row == 0) {
+        if (!now.isTaken(person, now.large)) {
             return 0;
         }
-        return row < LEAST_ROW_OF_TWO_PAIRS ? 1 : 2;
+        trial.copy(now);
+        int row = onePair(person);
+        if (row != NONE) {
+            return what == 0 ? 1 : row;
+        }
+        row = twoPairs(person);
+        return what == 0 && row != NONE ? 2 : row;
     }
 
     public int giveUp(int person) {
@@ -403,16 +404,7 @@ public final class ArrestOrder {
 
     // ---- FEED
 
-    /** The first row of the fewest pairs, as a number: 0 without a pair; NONE. */
-    private int fewestPairs(int person) {
-        trial.copy(now);
-        if (!trial.isTaken(person, trial.large)) {
-            return 0;
-        }
-        int row = onePair(person);
-        return row == NONE ? twoPairs(person) : row;
-    }
-
+    /** The first pair by which one that is taken, tried in 'trial', is not; NONE. */
     private int onePair(int person) {
         for (int figures = 0; figures < 10 * now.people; figures++) {
             long fed = newPair(figures);
@@ -448,7 +440,7 @@ public final class ArrestOrder {
 
     private boolean savesByFeeding(int person, long fed) {
         trial.feeding = now.feeding | fed;
-        return !trial.isTaken(person, trial.large);
+        return isIn(trial.leftBehind(trial.large), person);
     }
 
     // ---- SEEN
@@ -479,8 +471,8 @@ public final class ArrestOrder {
             for (int two = 0; two <= now.people; two++) {
                 int at = CHOICES * one + two;
                 trial.feeding = now.feeding | chosen(person, one) | chosen(other, two);
-                oneHas[at] = worthOfChoice(person, one);
-                otherHas[at] = worthOfChoice(other, two);
+                oneHas[at] = isOpen(person, one) ? trial.worthOf(person) - cost(one) : NO_CHOICE_IS_WORTH;
+                otherHas[at] = isOpen(other, two) ? trial.worthOf(other) - cost(two) : NO_CHOICE_IS_WORTH;
             }
         }
     }
@@ -494,11 +486,8 @@ public final class ArrestOrder {
         return choice > 0 && isOpen(person, choice) ? pair(person, choice - 1) : 0L;
     }
 
-    private int worthOfChoice(int person, int choice) {
-        if (!isOpen(person, choice)) {
-            return NO_CHOICE_IS_WORTH;
-        }
-        return trial.worthOf(person) - (choice == 0 ? 0 : 1);
+    private static int cost(int choice) {
+        return choice == 0 ? 0 : 1;
     }
 
     /** A choice that is not open is no rest, as 0 is always worth more. */
@@ -522,11 +511,20 @@ public final class ArrestOrder {
     }
 
     private static boolean isIn(int bits, int person) {
-        return (bits & bit(person)) != 0;
+        return (bits & (1 << person)) != 0;
     }
 
     private static int without(int bits, int person) {
-        return bits & ~bit(person);
+        return bits & ~(1 << person);
+    }
+
+    private static int leastOf(int bits) {
+        for (int person = 0; person < MOST_PEOPLE; person++) {
+            if (isIn(bits, person)) {
+                return person;
+            }
+        }
+        return NONE;
     }
 
     /** Seven bits for each PERSON that is fed, who FEEDS it in them. */
@@ -596,7 +594,7 @@ public final class ArrestOrder {
             if (byteAt(at) == 'P' && told.people < MOST_PEOPLE) {
                 return readPerson(at + 1, told);
             }
-            if (byteAt(at) == 'F' && told.canBeFedMore()) {
+            if (byteAt(at) == 'F' && told.hasPairLeft()) {
                 return readPair(at + 1, told);
             }
             return at;
@@ -617,7 +615,7 @@ public final class ArrestOrder {
 
         private int readPair(int at, Standing told) {
             int one = figureAt(at);
-            if (!told.has(one) || !told.canFeedMore(one)) {
+            if (!told.has(one) || Integer.bitCount(told.whomFeeds(one)) >= told.people - 1) {
                 return at;
             }
             int other = figureAt(at + 1);
@@ -739,7 +737,7 @@ public final class ArrestOrder {
             return (feeding & pair(one, other)) != 0;
         }
 
-        private int fedByThe(int person) {
+        private int whomFeeds(int person) {
             int fed = 0;
             for (int other = 0; other < people; other++) {
                 if (feeds(person, other)) {
@@ -749,11 +747,7 @@ public final class ArrestOrder {
             return fed;
         }
 
-        private boolean canFeedMore(int person) {
-            return Integer.bitCount(fedByThe(person)) < people - 1;
-        }
-
-        private boolean canBeFedMore() {
+        private boolean hasPairLeft() {
             return Long.bitCount(feeding) < people * (people - 1);
         }
 
@@ -764,7 +758,7 @@ public final class ArrestOrder {
 
         /** A DAY: who is TAKEN; NONE. */
         private int passDay() {
-            int who = leastToTake(large);
+            int who = leastOf(mayBeTaken(large));
             if (who != NONE) {
                 large = without(large, who);
             }
@@ -807,21 +801,11 @@ public final class ArrestOrder {
             return may;
         }
 
-        private int leastToTake(int atLarge) {
-            int may = mayBeTaken(atLarge);
-            for (int person = 0; person < people; person++) {
-                if (isIn(may, person)) {
-                    return person;
-                }
-            }
-            return NONE;
-        }
-
         private int fallRow() {
             int row = 0;
             int left = large;
             for (int step = 0; step < people; step++) {
-                int who = leastToTake(left);
+                int who = leastOf(mayBeTaken(left));
                 if (who == NONE) {
                     return row;
                 }
@@ -834,7 +818,7 @@ public final class ArrestOrder {
         private int placeOf(int person) {
             int left = large;
             for (int step = 0; step < people; step++) {
-                int who = leastToTake(left);
+                int who = leastOf(mayBeTaken(left));
                 if (who == NONE || who == person) {
                     return who == NONE ? NONE : step;
                 }

@@ -175,8 +175,12 @@ public final class PromisesTest {
         due.is("5: county(), a fault", LATE, x.county());
         due.holds("5: refused, all as it was", before.equals(state(x)));
         due.is("5: refused, what was kept is there", 1, x.again(0));
-        tell(x, "AP30P31P12");
+        x.day();
+        x.die(1);
+        tell(x, "AP30P30P12");
         due.is("5: county()", 3, x.county());
+        due.is("5: DEED", 3, x.person(0, 0));
+        due.is("5: KIND", 0, x.person(1, 1));
         due.is("5: THE TEXT stays", 10, x.about(8));
         due.is("5: all are at large", 7, x.about(1));
         due.is("5: nobody is dead", 0, x.about(4));
@@ -472,6 +476,8 @@ public final class PromisesTest {
         due.is("20: equal at 5 and hidden is not enough", 0, of("AP50P71F01").claim(1));
         due.is("20: a child is always 0", 0, of("AP50P93").claim(1));
         due.is("20: alone", 0, of("AP90").claim(0));
+        due.is("20: nobody can hide it at any deed", 0, of("AP90P91F01").claim(1));
+        due.is("20: hidden at 9 alone", 9, of("AP80P70F01").claim(1));
         ArrestOrder x = of("AP50P70");
         due.is("20: claim(2)", UNKNOWN, x.claim(2));
         due.is("20: nothing is changed", 7, x.person(1, 0));
