@@ -77,7 +77,7 @@ public final class OracleTest {
         wipe();
         put("A");
         int people = 1 + random.nextInt(7);
-        int deeds = 1 + random.nextInt(10);
+        int deeds = random.nextInt(3) == 0 ? 1 : 1 + random.nextInt(10);
         int kinds = 1 + random.nextInt(4);
         for (int i = 0; i < people; i++) {
             put("P" + random.nextInt(deeds) + (random.nextInt(3) == 0 ? random.nextInt(kinds) : 0));
@@ -94,6 +94,9 @@ public final class OracleTest {
         }
         is("fault()", y.fault(), x.fault());
         is("county()", y.county(), x.county());
+        for (int p = 0; p < people; p++) {
+            is("toFeed(" + p + ", 1)", y.toFeed(p, 1), x.toFeed(p, 1));
+        }
     }
 
     /** Near a county, with faults of every sort; asked at each byte. */

@@ -440,6 +440,7 @@ public final class PromisesTest {
         toFeedIs("AP50P50P50", 2, 2, 220);
         toFeedIs("AP50P50P50F02", 2, 1, 20);
         toFeedIs("AP50P50F01", 1, 1, 10);
+        toFeedIs("AP50P50P50F10", 2, 2, 102);
         toFeedIs("AP51P50P50", 0, NONE, NONE);
         toFeedIs("AP50", 0, NONE, NONE);
         ArrestOrder x = of("AP50P70");
