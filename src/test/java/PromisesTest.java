@@ -1,6 +1,7 @@
 /** The promises one by one: ordinary inputs, the edges that the document names, wrong inputs. */
 public final class PromisesTest {
-    private static final int UNKNOWN = -1, BAD = -2, LATE = -3, FULL = -4, NONE = -9;
+    private static final int UNKNOWN = Scenes.UNKNOWN, BAD = Scenes.BAD, LATE = Scenes.LATE, FULL = Scenes.FULL,
+        NONE = Scenes.NONE;
     private static final int[] NO_PERSON = {-1, 7, 8, 32, 64, Integer.MIN_VALUE, Integer.MAX_VALUE};
     private static final int ALL_DEEDS = 1023;
 
@@ -41,32 +42,15 @@ public final class PromisesTest {
     }
 
     private static void tell(ArrestOrder x, String text) {
-        x.wipe();
-        for (int i = 0; i < text.length(); i++) {
-            x.write(text.charAt(i));
-        }
+        Scenes.tell(x, text);
     }
 
     private static ArrestOrder of(String text) {
-        ArrestOrder x = new ArrestOrder();
-        tell(x, text);
-        due.holds(text + " is a county", x.county() >= 0);
-        return x;
+        return Scenes.of(text);
     }
 
-    /** All that can be asked of how an object stands: what is refused must not change it. */
     private static String state(ArrestOrder x) {
-        StringBuilder all = new StringBuilder();
-        for (int what = 0; what <= 8; what++) {
-            all.append(x.about(what)).append(' ');
-        }
-        for (int person = 0; person < x.about(0); person++) {
-            for (int what = 0; what <= 3; what++) {
-                all.append(x.person(person, what)).append(' ');
-            }
-            all.append(x.did(person)).append(' ');
-        }
-        return all.toString();
+        return Scenes.state(x);
     }
 
     private static void newObject() {
